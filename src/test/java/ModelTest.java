@@ -128,9 +128,7 @@ public final class ModelTest {
     }
 
     private void same(String call, long got, long due) {
-        if (got != due) {
-            Check.same("run " + run + ": " + call, got, due);
-        }
+        Check.same(got == due ? call : "run " + run + ": " + call, got, due);
     }
 
     /** Eight throws that all miss are rare: with eleven rows one draw in ten thousand. */

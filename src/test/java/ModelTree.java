@@ -94,6 +94,8 @@ final class ModelTree {
     private TreeMap<Integer, Node> tree = new TreeMap<>();
     /** The kinds of the shown tree's nodes after a cut; null while the whole tree is shown. */
     private TreeMap<Integer, Integer> cutKinds = null;
+    /** The grown tree's breaks; null until they are asked for. */
+    private List<Ratio> breaks = null;
 
     ModelTree() {
         anew();
@@ -109,6 +111,7 @@ final class ModelTree {
         tree = new TreeMap<>();
         tree.put(1, new Node(weighty));
         cutKinds = null;
+        breaks = null;
     }
 
     int addRow(int a, int b, int c, int inClass) {
@@ -455,7 +458,7 @@ final class ModelTree {
     }
 
     /** All breaks: a break is an error of at most 16 shared among at most 15 leaves. */
-    List<Ratio> breaks() {
+    private List<Ratio> findBreaks() {
         TreeSet<Ratio> tried = new TreeSet<>();
         for (int p = 0; p <= 17; p++) {
             for (int q = 1; q <= 15; q++) {
@@ -490,11 +493,13 @@ final class ModelTree {
         if (waitingNode() != 0) {
             return -1;
         }
-        List<Ratio> all = breaks();
-        if (k < 0 || k >= all.size()) {
+        if (breaks == null) {
+            breaks = findBreaks();
+        }
+        if (k < 0 || k >= breaks.size()) {
             return -1;
         }
-        return all.get(k).top().intValueExact() * 32 + all.get(k).bottom().intValueExact();
+        return breaks.get(k).top().intValueExact() * 32 + breaks.get(k).bottom().intValueExact();
     }
 
     int tally() {

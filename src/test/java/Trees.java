@@ -1,0 +1,44 @@
+/** Tables that several tests use. */
+final class Trees {
+    static final int NONE = SurrogateTree.MISSING;
+
+    private Trees() {
+    }
+
+    /** Rows with the values 0, 1, .. at feature 0 alone, in these classes. */
+    static SurrogateTree line(int... classes) {
+        SurrogateTree x = new SurrogateTree();
+        for (int i = 0; i < classes.length; i++) {
+            x.addRow(i, NONE, NONE, classes[i]);
+        }
+        return x;
+    }
+
+    /** By criterion 2 the root is split at 3, node 2 at 2 and node 3 at 6, into leaves of one class. */
+    static SurrogateTree halves() {
+        SurrogateTree x = line(0, 0, 0, 1, 2, 2, 2, 3);
+        x.begin(2, 4, 1);
+        return x;
+    }
+
+    static void growWhole(SurrogateTree x) {
+        for (int i = 0; i < 11; i++) {
+            x.grow(3);
+        }
+    }
+
+    /**
+     * Four drawn rows of weights 1, 1, 2, 0, grown. Node 1 (error 1) is split at 1, node 2 (error 1)
+     * at 0; the leaves 3, 4 and 5 have no error. Row 3 ends at node 5.
+     */
+    static SurrogateTree drawn() {
+        SurrogateTree x = new SurrogateTree();
+        x.addRow(0, NONE, NONE, 0);
+        x.addRow(1, NONE, NONE, 1);
+        x.addRow(2, NONE, NONE, 0);
+        x.addRow(1, NONE, NONE, 1);
+        x.bag(0);
+        growWhole(x);
+        return x;
+    }
+}
