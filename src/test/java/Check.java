@@ -2,15 +2,21 @@
 final class Check {
     private static int checks = 0;
     private static int failures = 0;
+    private static String sentence = "";
 
     private Check() {
+    }
+
+    /** Names the document's words that the checks from here on are about. */
+    static void sentence(String where, String words) {
+        sentence = where + ", \"" + words + "\": ";
     }
 
     static void same(String what, long got, long due) {
         checks++;
         if (got != due) {
             failures++;
-            System.out.println(what + " answered " + got + ", due is " + due);
+            System.out.println(sentence + what + " answered " + got + ", due is " + due);
         }
     }
 
@@ -22,7 +28,7 @@ final class Check {
         checks++;
         if (!holds) {
             failures++;
-            System.out.println("does not hold: " + what);
+            System.out.println(sentence + "does not hold: " + what);
         }
     }
 

@@ -48,9 +48,12 @@ public final class ReachTest {
     }
 
     private static void askingChangesNothing() {
-        SurrogateTree x = Trees.drawn();
-        x.tally();
-        String before = Snapshot.of(x);
-        Check.isTrue("asking twice gives the same answers", before.equals(Snapshot.of(x)));
+        SurrogateTree asked = Trees.drawn();
+        SurrogateTree other = Trees.drawn();
+        for (int a = -10; a <= 10; a++) {
+            asked.reach(a, NONE, a);
+            asked.reach(NONE, a, NONE);
+        }
+        Check.isTrue("asking changes nothing", Snapshot.of(other).equals(Snapshot.of(asked)));
     }
 }

@@ -5,7 +5,6 @@ public final class RowsTest {
         newObjectsSettings();
         rowsAreNumberedUpToSixteen();
         wrongClassesAreRefused();
-        refusedRowsChangeNothing();
         aRowStartsAllAnew();
         evenWeighsAnew();
         evenKeepsVotesAndSettings();
@@ -58,23 +57,6 @@ public final class RowsTest {
         for (int c = 0; c < 4; c++) {
             Check.same("addRow in class " + c, x.addRow(0, 0, 0, c), c);
         }
-    }
-
-    private static void refusedRowsChangeNothing() {
-        SurrogateTree x = Trees.drawn();
-        x.tally();
-        x.cut(1, 2);
-        String before = Snapshot.of(x);
-        x.addRow(1, 2, 3, 4);
-        x.addRow(1, 2, 3, -1);
-        Check.isTrue("a refused addRow changes nothing", before.equals(Snapshot.of(x)));
-        SurrogateTree full = Trees.line(0, 1, 0, 1, 0, 1, 0, 1, 0, 1, 0, 1, 0, 1, 0, 1);
-        full.bag(3);
-        Trees.growWhole(full);
-        full.tally();
-        before = Snapshot.of(full);
-        full.addRow(1, 2, 3, 0);
-        Check.isTrue("an addRow too many changes nothing", before.equals(Snapshot.of(full)));
     }
 
     private static void aRowStartsAllAnew() {
