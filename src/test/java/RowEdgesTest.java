@@ -19,6 +19,7 @@ public final class RowEdgesTest {
         refusedForItsClass();
         refusedWhenFull();
         aRowMakesWeightsOneAndVotesZero();
+        aRowTakesTheVotesForEveryClass();
         beginsAtTheEdges();
         beginsBeyondTheEdges();
         beginKeepsWeightsAndVotes();
@@ -193,6 +194,28 @@ public final class RowEdgesTest {
         Check.same("no vote is wrong", x.wrong(), 0);
         Check.same("the root waits", x.kind(1), 0);
         Check.same("the root has all rows", x.rowsOf(1), 7);
+    }
+
+    /** Each of the four seeds draws one row alone, which then votes on the three others. */
+    private static void aRowTakesTheVotesForEveryClass() {
+        Check.sentence("Promise 2", "All weights become 1, all votes 0");
+        SurrogateTree x = Trees.line(0, 1, 2, 3);
+        for (long seed : new long[] {49, 85, 178, 174}) {
+            x.bag(seed);
+            x.grow(1);
+            Check.same("tally", x.tally(), 3);
+        }
+        for (int row = 0; row < 4; row++) {
+            for (int c = 0; c < 4; c++) {
+                Check.same("before, votes(" + row + ", " + c + ")", x.votes(row, c), row == c ? 0 : 1);
+            }
+        }
+        x.addRow(4, NONE, NONE, 0);
+        for (int row = 0; row < 5; row++) {
+            for (int c = 0; c < 4; c++) {
+                Check.same("then, votes(" + row + ", " + c + ")", x.votes(row, c), 0);
+            }
+        }
     }
 
     private static void beginsAtTheEdges() {
