@@ -1,5 +1,5 @@
 /**
- * All that can be asked of a tree without changing it, as one text. It takes 348 calls, so that a
+ * All that can be asked of a tree without changing it, as one text. It takes 340 calls, so that a
  * tree can be asked once within the 512 calls of the document: to see whether a call changed
  * something, make two trees alike and the call on one of them.
  */
